@@ -749,23 +749,91 @@ public final class PaperRiver {
             if (clause >= RIVER_CLAUSES || (clause == 0) != (word == RIVER) || isFull(word)) {
                 return tape.wrong(tape.mark, FAULT_CLAUSE);
             }
+            return word == RIVER ? readRiver(tape) : readOfCell(tape, word);
+        }
+
+        private boolean readRiver(Tape tape) {
+            int cells = tape.readNumberFrom(CELLS_LEAST, CELLS_MOST);
+            if (cells == NONE) {
+                return false;
+            }
+            bed.start(cells);
+            return true;
+        }
+
+        private boolean readOfCell(Tape tape, int word) {
+            int cell = tape.readNumberFrom(0, bed.cells - 1);
+            if (cell == NONE) {
+                return false;
+            }
+            if (isTaken(word, cell)) {
+                return tape.wrong(tape.mark, FAULT_NUMBER);
+            }
+            int second = readSecond(tape, word);
+            if (second == NONE) {
+                return false;
+            }
+            if (word == FLOW && second == cell) {
+                return tape.wrong(tape.mark, FAULT_NUMBER);
+            }
+            tell(word, cell, second);
+            return true;
+        }
+
+        /** What the clause tells of its cell, NONE if it is faulty; 0 of clauses that tell no more. */
+        private int readSecond(Tape tape, int word) {
             switch (word) {
-                case RIVER:
-                    return readRiver(tape);
                 case FLOW:
-                    return readFlow(tape);
-                case MOUTH:
-                    return readMouth(tape);
+                    return tape.readNumberFrom(0, bed.cells - 1);
                 case EDDY:
-                    return readEddy(tape);
+                    return tape.readNumberFrom(1, EDDY_MOST);
                 case MILL:
-                    return readMill(tape);
-                case DAM:
-                    return readDam(tape);
+                    return tape.readLetters(1);
                 case NET:
-                    return readNet(tape);
+                    return tape.readNumberFrom(1, MESH_MOST);
+                case SCRAP:
+                    return tape.readLetters(LETTERS_MOST);
                 default:
-                    return readScrap(tape);
+                    return 0;
+            }
+        }
+
+        private void tell(int word, int cell, int second) {
+            switch (word) {
+                case FLOW:
+                    bed.flow[cell] = second;
+                    break;
+                case MOUTH:
+                    bed.flow[cell] = SEA;
+                    break;
+                case EDDY:
+                    bed.eddy[cell] = second;
+                    break;
+                case MILL:
+                    bed.addMill(cell, second);
+                    break;
+                case DAM:
+                    bed.addDam(cell);
+                    break;
+                case NET:
+                    water.mesh[cell] = second;
+                    break;
+                default:
+                    water.addScrap(cell, second);
+                    break;
+            }
+        }
+
+        private boolean isTaken(int word, int cell) {
+            switch (word) {
+                case MILL:
+                    return bed.millAt[cell] >= 0;
+                case DAM:
+                    return bed.damAt[cell] >= 0;
+                case NET:
+                    return water.mesh[cell] > 0;
+                default:
+                    return false;
             }
         }
 
@@ -782,114 +850,6 @@ public final class PaperRiver {
                 default:
                     return false;
             }
-        }
-
-        private int readCell(Tape tape) {
-            return tape.readNumberFrom(0, bed.cells - 1);
-        }
-
-        private boolean readRiver(Tape tape) {
-            int cells = tape.readNumberFrom(CELLS_LEAST, CELLS_MOST);
-            if (cells == NONE) {
-                return false;
-            }
-            bed.start(cells);
-            return true;
-        }
-
-        private boolean readFlow(Tape tape) {
-            int cell = readCell(tape);
-            if (cell == NONE) {
-                return false;
-            }
-            int into = readCell(tape);
-            if (into == NONE) {
-                return false;
-            }
-            if (into == cell) {
-                return tape.wrong(tape.mark, FAULT_NUMBER);
-            }
-            bed.flow[cell] = into;
-            return true;
-        }
-
-        private boolean readMouth(Tape tape) {
-            int cell = readCell(tape);
-            if (cell == NONE) {
-                return false;
-            }
-            bed.flow[cell] = SEA;
-            return true;
-        }
-
-        private boolean readEddy(Tape tape) {
-            int cell = readCell(tape);
-            if (cell == NONE) {
-                return false;
-            }
-            int days = tape.readNumberFrom(1, EDDY_MOST);
-            if (days == NONE) {
-                return false;
-            }
-            bed.eddy[cell] = days;
-            return true;
-        }
-
-        private boolean readMill(Tape tape) {
-            int cell = readCell(tape);
-            if (cell == NONE) {
-                return false;
-            }
-            if (bed.millAt[cell] >= 0) {
-                return tape.wrong(tape.mark, FAULT_NUMBER);
-            }
-            int letter = tape.readLetters(1);
-            if (letter == NONE) {
-                return false;
-            }
-            bed.addMill(cell, letter);
-            return true;
-        }
-
-        private boolean readDam(Tape tape) {
-            int cell = readCell(tape);
-            if (cell == NONE) {
-                return false;
-            }
-            if (bed.damAt[cell] >= 0) {
-                return tape.wrong(tape.mark, FAULT_NUMBER);
-            }
-            bed.addDam(cell);
-            return true;
-        }
-
-        private boolean readNet(Tape tape) {
-            int cell = readCell(tape);
-            if (cell == NONE) {
-                return false;
-            }
-            if (water.mesh[cell] > 0) {
-                return tape.wrong(tape.mark, FAULT_NUMBER);
-            }
-            int mesh = tape.readNumberFrom(1, MESH_MOST);
-            if (mesh == NONE) {
-                return false;
-            }
-            water.mesh[cell] = mesh;
-            return true;
-        }
-
-        private boolean readScrap(Tape tape) {
-            int cell = readCell(tape);
-            if (cell == NONE) {
-                return false;
-            }
-            int text = tape.readLetters(LETTERS_MOST);
-            if (text == NONE) {
-                return false;
-            }
-            water.addScrap(cell, text);
-            return true;
         }
     }
 

@@ -116,17 +116,13 @@ public final class ModelTest {
     }
 
     private void feed(String text) {
-        int length = Math.min(400, text.length());
-        for (int from = 0; from < length; from += 20) {
-            int[] five = new int[5];
-            for (int i = 0; i < 20; i++) {
-                int b = from + i < length ? text.charAt(from + i) & 255 : 0;
-                five[i / 4] |= b << 24 - 8 * (i % 4);
-            }
+        String told = text.substring(0, Math.min(400, text.length()));
+        for (int from = 0; from < told.length(); from += 20) {
+            int[] five = Texts.five(told, from);
             due("feed", river.feed(five[0], five[1], five[2], five[3], five[4]),
                 model.feed(five[0], five[1], five[2], five[3], five[4]));
         }
-        due("end(" + length + ")", river.end(length), model.end(length));
+        due("end(" + told.length() + ")", river.end(told.length()), model.end(told.length()));
     }
 
     private String blank() {

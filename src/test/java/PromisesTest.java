@@ -23,25 +23,13 @@ public final class PromisesTest {
         due(what, got ? 1 : 0, want ? 1 : 0);
     }
 
-    private static void feed(PaperRiver x, String text) {
-        for (int from = 0; from < text.length(); from += 20) {
-            int[] five = new int[5];
-            for (int i = 0; i < 20; i++) {
-                int b = from + i < text.length() ? text.charAt(from + i) : 0;
-                five[i / 4] |= b << 24 - 8 * (i % 4);
-            }
-            x.feed(five[0], five[1], five[2], five[3], five[4]);
-        }
-        x.end(text.length());
-    }
-
     private static int tell(PaperRiver x, String text) {
-        feed(x, text);
+        Texts.feed(x, text);
         return x.river();
     }
 
     private static int law(PaperRiver x, String text) {
-        feed(x, text);
+        Texts.feed(x, text);
         return x.rule();
     }
 
@@ -171,6 +159,9 @@ public final class PromisesTest {
         riverFault("river 3 3", 8, SYNTAX);
         riverFault("flow 0 1;river 3", 0, CLAUSE);
         riverFault("join 0 1", 0, SYNTAX);
+        riverFault("riverz 3", 0, SYNTAX);
+        riverFault("rivera 3", 0, SYNTAX);
+        riverFault("riverZ 3", 5, SYNTAX);
         riverFault("river 3; river 3", 9, CLAUSE);
         riverFault("river 3;flow 0 3", 15, NUMBER);
         riverFault("river 3;flow 3 0", 13, NUMBER);
@@ -216,7 +207,7 @@ public final class PromisesTest {
         for (int i = 0; i < 6; i++) {
             due("rule " + i, law(x, "join one<later"), i);
         }
-        feed(x, "join 1=1");
+        Texts.feed(x, "join 1=1");
         due("a seventh", x.rule(), -1);
         due("nothing happens", x.count(12), 8);
         due("count(5)", x.count(5), 6);
@@ -405,11 +396,14 @@ public final class PromisesTest {
         due("joined", x.scrap(1, 3), 3);
         due("too small", x.scrap(2, 3), 0);
 
-        x = with("river 3;net 0 1;scrap 0 a;flow 2 0", "join day=2");
-        for (int i = 0; i < 400; i++) {
-            x.day();
-        }
-        due("day 400", x.count(7), 400);
+        x = with("river 3;mill 1 f;scrap 0 a;scrap 0 b", "join same=1");
+        due("letters printed are the same too", x.day(), 1);
+
+        x = with("river 3;net 0 1;scrap 0 a;flow 2 0");
+        days(x, 999);
+        due("day 999", x.count(7), 999);
+        due("no day more", x.day(), -1);
+        due("nothing happens", x.count(7), 999);
         due("without a river", new PaperRiver().day(), -1);
     }
 
@@ -580,6 +574,11 @@ public final class PromisesTest {
 
         x = with("river 5;mouth 1;flow 2 0;scrap 2 ab;scrap 2 b");
         due("joined to one that is", x.fleet(2, 1), 1);
+        String slow = "river 9;eddy 1 9;eddy 2 9;eddy 3 9;eddy 4 9;eddy 5 9;net 7 1;scrap 0 a;eddy 6 ";
+        due("got on the 60th day", with(slow + "8").fleet(1, 0), 0);
+        due("got on the 61st day", with(slow + "9").fleet(1, 1), 2);
+        x = with("river 16;flow 0 13;mouth 13;flow 1 14;mouth 14;flow 2 15;scrap 0 a;scrap 1 b;scrap 2 c");
+        due("the last set of three", x.fleet(7, 1), 57344);
         x = with("river 4;net 1 2;scrap 0 a;scrap 0 a");
         due("joined, caught anyway", x.fleet(2, 0), 0);
         x = with("river 4;net 1 2;scrap 0 a;scrap 0 b");
@@ -762,6 +761,14 @@ public final class PromisesTest {
         due("the second year", x.years(2, 1, 1), 1);
         due("the third year", x.years(3, 1, 0), 1);
         due("the third year, longer", x.years(3, 2, 0), 2);
+        x = with("river 3;eddy 2 3", "join day=4 and wait=2");
+        x.seed(1);
+        due("days go on when none is on the river", x.years(3, 2, 2), 1);
+        x = with("river 3;eddy 2 3", "join day=999 and wait=2");
+        x.seed(1);
+        due("not yet", x.years(3, 2, 2), 0);
+        days(x, 998);
+        due("day 999 at most", x.years(3, 2, 2), 1);
     }
 
     private static void count() {
