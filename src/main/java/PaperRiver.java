@@ -314,22 +314,21 @@ public final class PaperRiver {
             return NONE;
         }
         int many = 0;
-        int first = NONE;
-        for (int days = 0; days <= DAYS_AGO; days++) {
-            for (int from = 0; from < now.bed.cells; from++) {
-                if (isSeenFrom(from, days, cell, text)) {
-                    first = many == 0 ? days * CELLS_MOST + from : first;
-                    many++;
-                }
+        int firstCell = LACKING;
+        int firstDay = LACKING;
+        for (int from = 0; from < now.bed.cells; from++) {
+            int days = daysSeenFrom(from, cell, text);
+            many += Integer.bitCount(days);
+            int least = Integer.numberOfTrailingZeros(days);
+            if (days != 0 && (firstDay < 0 || least < firstDay)) {
+                firstDay = least;
+                firstCell = from;
             }
         }
         if (what == 0) {
             return many;
         }
-        if (first < 0) {
-            return LACKING;
-        }
-        return what == 1 ? first % CELLS_MOST : first / CELLS_MOST;
+        return what == 1 ? firstCell : firstDay;
     }
 
     public int gates(int n, int what) {
@@ -513,38 +512,39 @@ public final class PaperRiver {
     }
 
     /**
-     * Whether a scrap dropped so many days ago, alone, can be in the cell with the text now. A text of
-     * 8 letters can always have been dropped whole, as mills print nothing behind it.
+     * How many days ago, as bits, a scrap can have been dropped, alone, to be in the cell with the text now.
+     * A text of 8 letters can always have been dropped whole, as mills print nothing behind it.
      */
-    private boolean isSeenFrom(int from, int days, int cell, int text) {
+    private int daysSeenFrom(int from, int cell, int text) {
+        int letters = lettersOf(text);
         int at = from;
         int wait = 0;
         int tail = 0;
         int tailLetters = 0;
-        int letters = lettersOf(text);
-        for (int day = 0; day < days; day++) {
+        int days = 0;
+        for (int day = 0; day <= DAYS_AGO && at >= 0; day++) {
+            if (at == cell && text % TENS[tailLetters] == tail) {
+                days |= 1 << day;
+            }
             if (damState(at) == 2) {
-                break;
+                continue;
             }
             if (wait > 0) {
                 wait--;
                 continue;
             }
             at = now.bed.flow[at];
-            if (at < 0) {
-                return false;
-            }
-            wait = now.bed.eddy[at];
-            int print = now.bed.printedIn(at);
+            wait = at < 0 ? 0 : now.bed.eddy[at];
+            int print = at < 0 ? 0 : now.bed.printedIn(at);
             if (print > 0 && letters < LETTERS_MOST) {
                 tail = tail * 10 + print;
                 tailLetters++;
-            }
-            if (tailLetters > 0 && tailLetters >= letters) {
-                return false;
+                if (tailLetters >= letters) {
+                    break;
+                }
             }
         }
-        return at == cell && text % TENS[tailLetters] == tail;
+        return days;
     }
 
     private static int nextSeedling(int x) {
@@ -1545,7 +1545,7 @@ public final class PaperRiver {
                 }
             }
             int crowded = water.cellsWith(2);
-            for (int cell = 0; cell < CELLS_MOST; cell++) {
+            for (int cell = 0; cell < CELLS_MOST && crowded >> cell != 0; cell++) {
                 boolean more = (crowded >> cell & 1) == 1;
                 for (int joins = 0; joins < SCRAP_ROOM && more; joins++) {
                     more = joinFirst(cell);
@@ -1748,7 +1748,7 @@ public final class PaperRiver {
         private final int[] firsts = new int[ROWS_MOST];
         private final int[] lasts = new int[ROWS_MOST];
         /** Of a set laid and the last one of it: in how many ways the others can follow. */
-        private int[] ways = null;
+        private final int[] ways = new int[ROWS_MOST << ROWS_MOST];
         private int size = 0;
 
         void lay(Water water, int scraps) {
@@ -1760,9 +1760,6 @@ public final class PaperRiver {
                     lasts[size] = water.lastLetter(scrap);
                     size++;
                 }
-            }
-            if (ways == null) {
-                ways = new int[ROWS_MOST << ROWS_MOST];
             }
             int all = (1 << size) - 1;
             for (int laid = all; laid > 0; laid--) {
