@@ -1316,6 +1316,7 @@ public final class PaperRiver {
 
         void leave(int scrap, int how, int whose) {
             place[scrap] = NONE;
+            wait[scrap] = 0;
             fate[scrap] = how;
             holder[scrap] = whose;
             leftOn[scrap] = today;

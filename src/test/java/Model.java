@@ -95,6 +95,7 @@ final class Model {
 
         void leave(Scrap s, int fate, int holder) {
             s.cell = -1;
+            s.wait = 0;
             s.fate = fate;
             s.holder = holder;
             s.left = day;

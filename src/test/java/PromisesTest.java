@@ -330,7 +330,7 @@ public final class PromisesTest {
     private static void scrap() {
         PaperRiver x = with("river 4;eddy 1 2;net 2 3;scrap 0 ab;scrap 0 bc;scrap 2 f;scrap 3 e");
         x.day();
-        int[][] want = {{1, 1223, 2, 0, -1, -1}, {-1, 23, 2, 3, 0, 0}, {3, 6, 0, 0, -1, -1}, {-1, 5, 0, 1, -1, 0}};
+        int[][] want = {{1, 1223, 2, 0, -1, -1}, {-1, 23, 0, 3, 0, 0}, {3, 6, 0, 0, -1, -1}, {-1, 5, 0, 1, -1, 0}};
         for (int scrap = 0; scrap < 4; scrap++) {
             for (int what = 0; what < 6; what++) {
                 due("scrap(" + scrap + ", " + what + ")", x.scrap(scrap, what), want[scrap][what]);
@@ -345,6 +345,30 @@ public final class PromisesTest {
         due("scrap(-1, 0)", x.scrap(-1, 0), -2);
         due("scrap(0, -1)", x.scrap(0, -1), -2);
         due("scrap(0, 6)", x.scrap(0, 6), -2);
+        whoLeftWaitsNoMore();
+    }
+
+    private static void whoLeftWaitsNoMore() {
+        PaperRiver x = with("river 3;flow 2 0;eddy 1 2;scrap 0 a;scrap 2 f");
+        x.drop(0, 1);
+        x.day();
+        due("the one has days to wait", x.scrap(0, 2), 2);
+        due("joined", x.scrap(2, 3), 3);
+        due("joined, it waits no more", x.scrap(2, 2), 0);
+        due("undone", x.undo(), 1);
+        due("undone, on the river", x.scrap(2, 3), 0);
+
+        x = with("river 3;eddy 1 2;net 1 2;scrap 0 ab;scrap 0 c");
+        x.day();
+        due("caught", x.scrap(0, 3), 2);
+        due("caught in an eddy, it waits no more", x.scrap(0, 2), 0);
+        due("too small for the net, it waits", x.scrap(1, 2), 2);
+        x.net(1, 1);
+        x.day();
+        due("caught while it waits", x.scrap(1, 3), 2);
+        due("it waits no more", x.scrap(1, 2), 0);
+        x.undo();
+        due("undone, it waits again", x.scrap(1, 2), 2);
     }
 
     private static void day() {
