@@ -397,22 +397,18 @@ public final class PaperRiver {
         if (!hasRiver() || m < 1 || m > YEARS_MOST || !isSpan(n) || what < 0 || what > 2) {
             return NONE;
         }
-        stream.beginLook(now, lawInForce());
         int x = now.seedling;
-        for (int year = 0; year < m; year++) {
-            x = nextSeedling(x);
-            int cell = drawOf(x) % now.bed.cells;
-            x = nextSeedling(x);
-            int letter = 1 + drawOf(x) % LETTER_KINDS;
-            if (stream.water.scraps < SCRAPS_MOST) {
-                stream.water.addScrap(cell, letter);
+        int many = 0;
+        for (int time = 0; time < m; time++) {
+            stream.beginLook(now, lawInForce());
+            x = passDrawnDays(n, x);
+            if (what == 0) {
+                many += stream.toSea;
+            } else {
+                many += what == 1 ? stream.toNets : stream.toOthers;
             }
-            stream.passDays(n);
         }
-        if (what == 0) {
-            return stream.toSea;
-        }
-        return what == 1 ? stream.toNets : stream.toOthers;
+        return many;
     }
 
     public int count(int what) {
@@ -545,6 +541,22 @@ public final class PaperRiver {
             }
         }
         return days;
+    }
+
+    /** Lets days pass with a drawn letter dropped ahead of each: the x behind them, with which the next time goes on. */
+    private int passDrawnDays(int days, int firstX) {
+        int x = firstX;
+        for (int day = 0; day < days && hasRiver(); day++) {
+            x = nextSeedling(x);
+            int cell = drawOf(x) % now.bed.cells;
+            x = nextSeedling(x);
+            int letter = 1 + drawOf(x) % LETTER_KINDS;
+            if (stream.water.scraps < SCRAPS_MOST) {
+                stream.water.addScrap(cell, letter);
+            }
+            stream.passDay();
+        }
+        return x;
     }
 
     private static int nextSeedling(int x) {

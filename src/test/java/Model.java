@@ -879,19 +879,22 @@ final class Model {
             return -1;
         }
         long x = now.x;
-        State s = now.state.copy();
-        int before = fates(s, what + 1);
-        for (int year = 0; year < m; year++) {
-            x = (x * 1103515245L + 12345) % 2147483648L;
-            int cell = (int) (x / 65536 % s.cells);
-            x = (x * 1103515245L + 12345) % 2147483648L;
-            String letter = Long.toString(x / 65536 % 6 + 1);
-            if (s.scraps.size() < 12) {
-                s.drop(cell, letter);
+        int many = 0;
+        for (int time = 0; time < m; time++) {
+            State s = now.state.copy();
+            for (int day = 0; day < n; day++) {
+                x = (x * 1103515245L + 12345) % 2147483648L;
+                int cell = (int) (x / 65536 % s.cells);
+                x = (x * 1103515245L + 12345) % 2147483648L;
+                String letter = Long.toString(x / 65536 % 6 + 1);
+                if (s.scraps.size() < 12) {
+                    s.drop(cell, letter);
+                }
+                s = after(s, 1);
             }
-            s = after(s, n);
+            many += fates(s, what + 1) - fates(now.state, what + 1);
         }
-        return fates(s, what + 1) - before;
+        return many;
     }
 
     private static int fates(State s, int fate) {

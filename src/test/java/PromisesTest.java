@@ -756,43 +756,66 @@ public final class PromisesTest {
     }
 
     private static void years() {
-        // draws from 0 on: 0, 21468, 9988, 22117, 3498, 16927, ..: in cell 0 an a, in cell 0 a b, in cell 0 a b
+        // drawn from 0 on with two cells: 0 a, 0 b, 0 b, 1 b, 0 e, 1 e, 1 c, 1 d, 0 b, 0 d
         PaperRiver x = with("river 2;scrap 0 a;scrap 1 b");
         due("into the sea", x.years(1, 1, 0), 1);
         due("joined", x.years(1, 1, 2), 1);
         due("caught", x.years(1, 1, 1), 0);
-        due("into the sea", x.years(2, 1, 0), 2);
-        due("into the sea", x.years(3, 2, 0), 4);
+        due("each time begins now", x.years(9, 1, 0), 13);
+        due("drawn ahead of each day", x.years(1, 3, 0), 3);
+        due("drawn ahead of each day", x.years(1, 3, 2), 1);
+        due("x goes on from time to time", x.years(2, 2, 0), 6);
+        due("x goes on from time to time", x.years(2, 2, 2), 1);
         x.net(1, 1);
-        due("caught", x.years(3, 1, 1), 3);
+        due("caught", x.years(3, 1, 1), 5);
+        due("past the net", x.years(3, 1, 0), 3);
+        due("joined ahead of the net", x.years(3, 1, 2), 1);
         due("x as it was", x.count(11), 0);
         due("nothing changes", x.count(4), 2);
-        for (int i = 2; i < 12; i++) {
-            x.drop(1, 6);
-        }
-        due("no 13th", x.years(10, 2, 0), 11);
-        due("no 13th", x.years(10, 2, 1), 1);
+        due("nothing changes", x.count(7), 0);
+        due("nothing changes", x.count(8), 3);
         due("m 0", x.years(0, 1, 0), -1);
         due("m 11", x.years(11, 1, 0), -1);
         due("n 0", x.years(1, 0, 0), -1);
         due("n 61", x.years(1, 61, 0), -1);
         due("what 3", x.years(1, 1, 3), -1);
         due("what -1", x.years(1, 1, -1), -1);
-        // draws from 1 on: 16838, 5758, 10113, 17515, 31051, 5627: in cell 2 an e, in cell 0 a b, in cell 1 an f
-        x = with("river 3;net 1 1");
+        due("no river", new PaperRiver().years(1, 1, 0), -1);
+        yearsWithAFewPlaces();
+        yearsByTheDay();
+    }
+
+    private static void yearsWithAFewPlaces() {
+        PaperRiver x = with("river 2;net 1 1");
+        for (int i = 0; i < 11; i++) {
+            x.drop(1, 6);
+        }
+        due("all leave", x.day(), 11);
+        // of the first time only the a comes in (caught), of the second the b in cell 1, the fourth that is drawn
+        due("both are drawn anyway", x.years(2, 3, 0), 1);
+        due("both are drawn anyway", x.years(2, 3, 1), 1);
+        due("the second day is drawn, too", x.years(2, 1, 1), 2);
+        x.drop(1, 6);
+        due("who left counts among 12", x.years(10, 60, 1), 0);
+        due("the twelfth, each time", x.years(10, 60, 0), 10);
+        x = with("river 3;scrap 2 f");
         x.seed(1);
-        due("the first year", x.years(1, 1, 0), 1);
-        due("the second year", x.years(2, 1, 1), 1);
-        due("the third year", x.years(3, 1, 0), 1);
-        due("the third year, longer", x.years(3, 2, 0), 2);
-        x = with("river 3;eddy 2 3", "join day=4 and wait=2");
-        x.seed(1);
-        due("days go on when none is on the river", x.years(3, 2, 2), 1);
-        x = with("river 3;eddy 2 3", "join day=999 and wait=2");
-        x.seed(1);
-        due("not yet", x.years(3, 2, 2), 0);
+        // drawn from 1 on with three cells: 2 e, 0 b, 1 f
+        due("another x", x.years(1, 1, 0), 2);
+        due("another x", x.years(2, 1, 0), 3);
+        due("x stays", x.count(11), 1);
+    }
+
+    private static void yearsByTheDay() {
+        PaperRiver x = with("river 2;scrap 0 a;scrap 0 b", "join day=0");
+        due("the day is this one each time", x.years(3, 1, 2), 6);
+        x = with("river 2;scrap 0 a;scrap 0 b", "join day=1");
+        due("the next day is not come to", x.years(10, 1, 2), 0);
+        x = with("river 2;flow 1 0;scrap 0 a;scrap 0 b", "join day=999");
         days(x, 998);
-        due("day 999 at most", x.years(3, 2, 2), 1);
+        due("not yet", x.years(1, 1, 2), 0);
+        due("the last day", x.years(1, 2, 2), 2);
+        due("999 at most", x.years(1, 3, 2), 3);
     }
 
     private static void count() {
