@@ -1,3 +1,6 @@
+import java.util.ArrayList;
+import java.util.List;
+import java.util.Random;
 import java.util.function.ToIntFunction;
 
 /** The bounds of a DAY and of the other ACTS, each call of theirs that is refused, and what can be UNDONE. */
@@ -409,6 +412,52 @@ public final class DayBoundsTest {
         Due.is("none more", x.undo(), -2);
     }
 
+    private static void twentyOfMany() {
+        for (int acts = 21; acts <= 130; acts++) {
+            PaperRiver x = Rivers.with("river 3");
+            Rivers.days(x, acts);
+            x.image(1);
+            undoTwenty(x, acts);
+            x.back(1);
+            Rivers.days(x, 7);
+            undoTwenty(x, acts + 7);
+        }
+    }
+
+    private static void undoTwenty(PaperRiver x, int acts) {
+        for (int left = 19; left >= 0; left--) {
+            Due.is("how many more, of " + acts, x.undo(), left);
+            Due.is("the day, of " + acts, x.count(7), acts - 20 + left);
+        }
+        Due.is("no more, of " + acts, x.undo(), -2);
+    }
+
+    /** Acts and undos of fixed seeds, held against a row of what was. */
+    private static void undoneBetween() {
+        for (int run = 0; run < 60; run++) {
+            Random random = new Random(run);
+            PaperRiver x = Rivers.with("river 3");
+            List<Integer> past = new ArrayList<>();
+            int mesh = 0;
+            for (int call = 0; call < 240; call++) {
+                if (random.nextInt(20) < 9 + run % 10) {
+                    past.add(mesh);
+                    mesh = (mesh + 1 + random.nextInt(8)) % 9;
+                    x.net(0, mesh);
+                } else {
+                    boolean can = past.size() > 0;
+                    Due.is("undo()", x.undo(), can ? past.size() - 1 : -2);
+                    mesh = can ? past.remove(past.size() - 1) : mesh;
+                }
+                if (past.size() > 20) {
+                    past.remove(0);
+                }
+                Due.is("what is", x.cell(0, 4), mesh);
+                Due.is("what can be undone", x.count(10), past.size());
+            }
+        }
+    }
+
     private static void noneCanBeUndone() {
         Twins.refused("undo of nothing", PaperRiver::new, PaperRiver::undo, -2);
         Twins.refused("undo of a new river", () -> Rivers.with("river 3;scrap 0 a"), PaperRiver::undo, -2);
@@ -489,6 +538,8 @@ public final class DayBoundsTest {
         Due.sentence("net: NONE, and nothing happens, if there would be more than 5", DayBoundsTest::fiveNetsAtMost);
         Due.sentence("The last 20 ACTS can be UNDONE, the last first", DayBoundsTest::lastTwenty);
         Due.sentence("The last 20 ACTS can be UNDONE: 20 of 20", DayBoundsTest::twentyExactly);
+        Due.sentence("The last 20 ACTS can be UNDONE: 20 of many", DayBoundsTest::twentyOfMany);
+        Due.sentence("The last ACT is UNDONE: how many more can be", DayBoundsTest::undoneBetween);
         Due.sentence("undo: -2, and nothing happens: none can", DayBoundsTest::noneCanBeUndone);
         Due.sentence("ACTS: a DAY; DROP; TEAR; DAM; NET: undone", DayBoundsTest::actsUndone);
         Due.sentence("ACTS: no others", DayBoundsTest::whatIsNoAct);

@@ -7,7 +7,6 @@ import java.util.ArrayList;
 import java.util.List;
 import java.util.regex.Matcher;
 import java.util.regex.Pattern;
-import javax.tools.ToolProvider;
 
 /** Compiles the Java of README.md and makes its calls: their answers must be those that stand behind them. */
 public final class ReadmeTest {
@@ -71,14 +70,14 @@ public final class ReadmeTest {
         return s.append("}\n}\n").toString();
     }
 
-    private static void runExample(String source) throws IOException, ReflectiveOperationException {
+    private static void runExample(String source) throws Exception {
         Path dir = Files.createTempDirectory("readme");
         Path file = dir.resolve("ReadmeExample.java");
         Path compiled = dir.resolve("ReadmeExample.class");
         Files.writeString(file, source);
-        int fault = ToolProvider.getSystemJavaCompiler().run(null, System.out, System.out, "-cp",
-            System.getProperty("java.class.path"), "-d", dir.toString(), file.toString());
-        if (fault != 0) {
+        Process javac = new ProcessBuilder("javac", "-cp", System.getProperty("java.class.path"), "-d", dir.toString(),
+            file.toString()).inheritIO().start();
+        if (javac.waitFor() != 0) {
             complain("the example can't be compiled");
         } else {
             try (URLClassLoader loader = new URLClassLoader(new URL[] {dir.toUri().toURL()})) {
@@ -90,7 +89,7 @@ public final class ReadmeTest {
         Files.deleteIfExists(dir);
     }
 
-    public static void main(String[] args) throws IOException, ReflectiveOperationException {
+    public static void main(String[] args) throws Exception {
         List<List<String>> blocks = javaBlocks(Path.of("README.md"));
         if (blocks.size() != 2) {
             complain("due are two blocks of Java: how a text is told, and the example");
